@@ -50,6 +50,7 @@ public final class ChunkedNodes {
     private static final int WRAP_FROM = 1000;
     private static final int WRAP_TO = 9;
 
+    private static final int CHUNK_BYTES = 8;
     private static final int MESSAGE_BYTES = 64;
     // A value comes in a WRITE alone, behind the service and a name of 2 bytes at least.
     private static final int VALUE_BYTES = MESSAGE_BYTES - 3;
@@ -124,7 +125,7 @@ public final class ChunkedNodes {
 
     public int chunk(int kind, int sequence, int request, long bytes, int count) {
         if (!channel.live || kind < MORE || kind > ABORT || sequence < 0 || request < 0
-                || count < 0 || count > 8) {
+                || count < 0 || count > CHUNK_BYTES) {
             return REFUSED;
         }
         if (channel.mustClose(kind, sequence, request, count)) {
@@ -618,7 +619,6 @@ public final class ChunkedNodes {
         void become(int parent, int type) {
             this.parent = parent;
             this.type = type;
-            value.clear();
             if (type == FOLDER) {
                 return;
             }

@@ -54,6 +54,7 @@ public final class MessageTest {
             check.bytes("space " + space, client.send(Wire.join(Wire.bytes(1), Wire.longName(space, 1))), 3);
         }
         for (int form : new int[] {2, 3, 128, 254, 255}) {
+            check.bytes("form " + form + " alone", client.send(1, form), 1);
             check.bytes("form " + form, client.send(1, form, 1), 1);
             check.bytes("form " + form + ", longer", client.send(1, form, 0, 1, 0), 1);
         }

@@ -12,6 +12,8 @@ public final class ValueTest {
         lengths(check);
         kinds(check);
         same(check);
+        sameAfterLonger(check);
+        cutAtTheEnd(check);
         check.end();
     }
 
@@ -95,21 +97,16 @@ public final class ValueTest {
     }
 
     private static void kinds(Check check) {
-        Client client = withAny();
         for (int kind = 0; kind < 256; kind++) {
             boolean known = kind == 0 || kind == 1 || kind == 6 || kind == 8 || kind == 12 || kind == 152;
-            if (!known && kind % 5 != 0) {
-                client.send(Wire.write(1, Wire.bytes(kind)));
-                check.same("kind " + kind, client.server.answer(0), 1);
+            if (!known) {
+                Client client = withAny();
+                isNone(check, client, kind);
+                isNone(check, client, kind, 0);
+                isNone(check, client, kind, 0, 0, 0, 0);
+                isNone(check, client, kind, 0, 0, 0, 0, 0, 0, 0, 0);
+                isNone(check, client, Wire.list(Wire.bytes(kind)));
             }
-        }
-        for (int kind : new int[] {2, 5, 7, 9, 13, 24, 140, 151, 153, 255}) {
-            Client fresh = withAny();
-            isNone(check, fresh, kind);
-            isNone(check, fresh, kind, 0);
-            isNone(check, fresh, kind, 0, 0, 0, 0);
-            isNone(check, fresh, kind, 0, 0, 0, 0, 0, 0, 0, 0);
-            isNone(check, fresh, Wire.list(Wire.bytes(kind)));
         }
     }
 
@@ -117,14 +114,38 @@ public final class ValueTest {
     private static void same(Check check) {
         Client client = withAny();
         client.send(Wire.watch(1, 4, 1));
-        int[][] values = {Wire.small(0), Wire.large(0), Wire.noText(), Wire.text(), Wire.text(0),
-            Wire.text(1), Wire.list(), Wire.flag(0), Wire.flag(1), Wire.empty()};
+        int[][] values = {Wire.small(0), Wire.large(0), Wire.noText(), Wire.small(-1), Wire.text(0), Wire.text(1),
+            Wire.text(), Wire.list(), Wire.small(0), Wire.flag(0), Wire.flag(1), Wire.empty()};
         for (int[] value : values) {
             client.send(Wire.publish());
             check.bytes("write", client.send(Wire.write(1, value)), 0);
             check.same("another", client.server.queue(0), 1);
             check.bytes("write again", client.send(Wire.write(1, value)), 0);
             check.same("the same", client.server.queue(0), 1);
+        }
+    }
+
+    /** What stood behind a shorter value before is no part of it. */
+    private static void sameAfterLonger(Check check) {
+        Client client = withAny();
+        client.server.variable(0, 0);
+        client.send(Wire.write(1, Wire.text(1, 2, 3)));
+        client.send(Wire.write(1, Wire.text(1)));
+        client.send(Wire.watch(1, 4, 1));
+        client.send(Wire.write(2, Wire.text(1, 7, 7)));
+        client.send(Wire.write(1, Wire.text(1)));
+        check.same("the same after longer ones", client.server.queue(0), 1);
+    }
+
+    /** Values that break off where the longest message ends. */
+    private static void cutAtTheEnd(Check check) {
+        int[][] ends = {Wire.bytes(1), Wire.bytes(6), Wire.bytes(8, 0, 0), Wire.bytes(12), Wire.bytes(152, 0, 0, 0),
+            Wire.bytes(12, 1, 0, 0, 0), Wire.bytes(152, 1, 0, 0, 0)};
+        for (int[] end : ends) {
+            int[] text = Wire.text(new int[51 - end.length]);
+            int[] value = Wire.join(Wire.bytes(152), Wire.number(2, 4), text, end);
+            check.same("64 bytes", Wire.write(1, value).length, 64);
+            isNone(check, withAny(), value);
         }
     }
 }
