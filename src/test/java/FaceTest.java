@@ -12,7 +12,7 @@ public final class FaceTest {
         "int parcels()", "int parcel(int)", "int size(int)"};
 
     public static void main(String[] args) {
-        Check check = new Check();
+        Check check = new Check("The public face");
         check.same("REFUSED", ChunkedNodes.REFUSED, -1);
         check.same("TAKEN", ChunkedNodes.TAKEN, 0);
         check.same("ANSWERED", ChunkedNodes.ANSWERED, 1);

@@ -19,7 +19,7 @@ public final class ModelTest {
     }
 
     public static void main(String[] args) {
-        Check check = new Check();
+        Check check = new Check("the class against the model");
         for (int seed = 0; seed < 12000 && check.wrong() == 0; seed++) {
             new ModelTest(seed, check).run();
         }
@@ -153,11 +153,15 @@ public final class ModelTest {
         int from = 0;
         while (message.length - from > most && model.isOpen()) {
             int count = chance(8) ? 0 : most;
-            chunk(chance(60) ? 2 : 0, request, Wire.pack(message, from, count), count);
+            chunk(chance(60) ? 2 : 0, request, bytesOf(message, from, count), count);
             from += count;
         }
         int count = Math.min(8, message.length - from);
-        chunk(chance(30) ? 0 : 1, request, Wire.pack(message, from, count), count);
+        chunk(chance(30) ? 0 : 1, request, bytesOf(message, from, count), count);
+    }
+
+    private static long bytesOf(int[] message, int from, int count) {
+        return Wire.pack(java.util.Arrays.copyOfRange(message, from, from + count));
     }
 
     private void chunk(int kind, int request, long bytes, int count) {

@@ -1,195 +1,137 @@
-/** Promise 7: chunk, and how chunks come together to a message. */
+/** Promise 7: chunk; the sentences under "Terms" that it rests on are in the tests of the terms. */
 public final class Promise07ChunkTest {
     public static void main(String[] args) {
-        Check check = new Check();
-        refusals(check);
-        bytesOfChunk(check);
-        sequenceNumbers(check);
-        wrapping(check);
-        requestNumbers(check);
-        aborts(check);
-        tooManyBytes(check);
-        tooManyChunks(check);
-        closedStays(check);
-        longestMessage(check);
-        check.end();
+        Section section = new Section("Promise 7");
+        section.sentence("its bytes are the lowest count ones of bytes, the lowest first", Promise07ChunkTest::bytes);
+        section.sentence("Answers ANSWERED if a message was whole by it", Promise07ChunkTest::answered);
+        section.sentence("TAKEN if it was taken otherwise", Promise07ChunkTest::taken);
+        section.sentence("CLOSED if the channel closes", Promise07ChunkTest::closed);
+        section.sentence("REFUSED if the channel is closed", Promise07ChunkTest::refusedWhenClosed);
+        section.sentence("kind is not 0 .. 2", Promise07ChunkTest::kinds);
+        section.sentence("sequence or request is below 0", Promise07ChunkTest::belowZero);
+        section.sentence("or count is not 0 .. 8", Promise07ChunkTest::counts);
+        section.end();
     }
 
-    private static void refusals(Check check) {
-        ChunkedNodes x = new ChunkedNodes();
-        check.same("first", x.chunk(0, 10, 5, 1, 1), 0);
-        for (int wrong : new int[] {-1, 3, 255, Integer.MIN_VALUE, Integer.MAX_VALUE}) {
-            check.same("kind " + wrong, x.chunk(wrong, 11, 5, 0, 1), -1);
-        }
-        for (int wrong : new int[] {-1, 9, 64, Integer.MIN_VALUE, Integer.MAX_VALUE}) {
-            check.same("count " + wrong, x.chunk(0, 11, 5, 0, wrong), -1);
-        }
-        for (int wrong : new int[] {-1, Integer.MIN_VALUE}) {
-            check.same("sequence " + wrong, x.chunk(0, wrong, 5, 0, 1), -1);
-            check.same("request " + wrong, x.chunk(0, 11, wrong, 0, 1), -1);
-        }
-        check.same("refused before it closes", x.chunk(5, 900, 6, 0, 1), -1);
-        check.same("an abort is refused too", x.chunk(2, 11, 5, 0, 9), -1);
-        check.same("nothing changed", x.part(), 1);
-        check.same("the next one", x.chunk(0, 11, 5, 0, 8), 0);
-        check.same("9 bytes", x.part(), 9);
-    }
-
-    private static void bytesOfChunk(Check check) {
-        Client client = new Client();
-        ChunkedNodes x = client.server;
-        x.variable(0, 0);
-        check.same("2 bytes of more", x.chunk(0, 1, 5, 0x7777777777770002L, 2), 0);
-        check.same("8 bytes", x.chunk(0, 2, 5, 0x8070605040300801L, 8), 0);
-        check.same("0 bytes", x.chunk(0, 3, 5, -1, 0), 0);
-        check.same("the last 2", x.chunk(1, 4, 5, 0xFFFFFFFFFFFFA090L, 2), 1);
-        check.bytes("written", client.answer(), 0);
-        check.same("read", x.chunk(1, 5, 6, 0x010001, 3), 1);
-        check.bytes("the value", client.answer(), 0, 8, 0x30, 0x40, 0x50, 0x60, 0x70, 0x80, 0x90, 0xA0);
-    }
-
-    private static ChunkedNodes afterSequence(int sequence) {
-        ChunkedNodes x = new ChunkedNodes();
-        x.chunk(0, sequence, 1, 0, 1);
-        return x;
-    }
-
-    private static void sequenceNumbers(Check check) {
-        check.same("one more", afterSequence(5).chunk(0, 6, 1, 0, 1), 0);
-        for (int wrong : new int[] {5, 4, 7, 0, 1, 9, Integer.MAX_VALUE}) {
-            check.same("5, " + wrong, afterSequence(5).chunk(0, wrong, 1, 0, 1), 2);
-            check.same("5, ABORT " + wrong, afterSequence(5).chunk(2, wrong, 1, 0, 1), 2);
-            check.same("5, LAST " + wrong, afterSequence(5).chunk(1, wrong, 1, 0, 1), 2);
-        }
-        ChunkedNodes x = new ChunkedNodes();
-        x.chunk(2, 20, 3, 0, 0);
-        check.same("an ABORT counts", x.chunk(0, 22, 3, 0, 0), 2);
-        x.open();
-        x.chunk(1, 20, 3, 0, 0);
-        check.same("a LAST counts", x.chunk(0, 20, 3, 0, 0), 2);
-        x.open();
-        x.chunk(2, 20, 3, 0, 0);
-        x.chunk(0, 22, -3, 0, 0);
-        check.same("a refused one does not count", x.chunk(0, 21, 3, 0, 0), 0);
-    }
-
-    private static void wrapping(Check check) {
-        for (int latest : new int[] {1000, 1001, 5000, Integer.MAX_VALUE}) {
-            for (int next = 0; next <= 9; next++) {
-                check.same(latest + ", " + next, afterSequence(latest).chunk(0, next, 1, 0, 1), 0);
+    private static void bytes(Check check) {
+        long all = 0xF8F7F6F5F4F3F2F1L;
+        for (int count = 0; count <= 8; count++) {
+            Client x = Client.with(Wire.TEXT);
+            x.more(2, 0, 1, 12, count, 0, 0, 0);
+            check.same("count " + count, x.chunk(1, x.nextSequence(), x.latestRequest(), all, count), 1);
+            check.bytes("WRITE", x.answer(), 0);
+            int[] text = new int[count];
+            for (int i = 0; i < count; i++) {
+                text[i] = 0xF1 + i;
             }
-            check.same(latest + ", 10", afterSequence(latest).chunk(0, 10, 1, 0, 1), 2);
-            check.same(latest + " again", afterSequence(latest).chunk(0, latest, 1, 0, 1), 2);
+            check.bytes("READ", x.send(Wire.read(1)), Wire.valueAnswer(Wire.text(text)));
         }
-        for (int latest : new int[] {999, 998, 500, 10}) {
-            check.same(latest + ", 0", afterSequence(latest).chunk(0, 0, 1, 0, 1), 2);
-            check.same(latest + ", 9", afterSequence(latest).chunk(0, 9, 1, 0, 1), 2);
-        }
-        check.same("999, 1000", afterSequence(999).chunk(0, 1000, 1, 0, 1), 0);
-        check.same("1000, 1001", afterSequence(1000).chunk(0, 1001, 1, 0, 1), 0);
-        ChunkedNodes x = afterSequence(1000);
-        x.chunk(0, 3, 1, 0, 1);
-        check.same("1000, 3, 0", x.chunk(0, 0, 1, 0, 1), 2);
+        Client x = Client.with(Wire.FLAG);
+        check.same("what is above the count", x.chunk(1, 1, 1, 0x7777777777010001L, 3), 1);
+        check.bytes("does not count", x.answer(), 0, 1, 0);
     }
 
-    private static void requestNumbers(Check check) {
+    private static void answered(Check check) {
+        Client x = Client.with(Wire.FLAG);
+        check.same("one chunk", x.last(1, 0, 1), 1);
+        x.more(1, 0);
+        check.same("two chunks", x.last(1), 1);
+        check.same("no bytes", x.last(), 1);
+        check.same("no service", x.last(99), 1);
+        check.same("not as written", x.last(1, 0), 1);
+        check.same("no node", x.last(1, 0, 9), 1);
+    }
+
+    private static void taken(Check check) {
+        Client x = Client.with(Wire.FLAG);
+        check.same("MORE", x.more(1), 0);
+        check.same("MORE without bytes", x.more(), 0);
+        check.same("MORE, and the message is as written", x.more(0, 1), 0);
+        check.same("ABORT", x.abort(), 0);
+        check.same("ABORT without a message", x.abort(1, 0, 1), 0);
+        check.same("no answer", x.answerLength(), 0);
+    }
+
+    private static void closed(Check check) {
         for (int kind = 0; kind < 3; kind++) {
-            ChunkedNodes x = afterSequence(5);
-            check.same("another request, kind " + kind, x.chunk(kind, 6, 2, 0, 1), 2);
+            Client x = new Client();
+            x.chunk(0, 5, 1, 0, 1);
+            check.same("sequence, kind " + kind, x.chunk(kind, 5, 1, 0, 1), 2);
+            check.same("closed", x.isOpen(), false);
+            x.open();
+            x.chunk(0, 5, 1, 0, 1);
+            check.same("request, kind " + kind, x.chunk(kind, 6, 2, 0, 1), 2);
             check.same("closed", x.isOpen(), false);
         }
-        ChunkedNodes x = new ChunkedNodes();
-        check.same("request 1", x.chunk(1, 5, 1, 0, 1), 1);
-        check.same("request 0 after it", x.chunk(1, 6, 0, 0, 1), 1);
-        check.same("an empty message in part", x.chunk(0, 7, 9, 0, 0), 0);
-        check.same("has its request", x.chunk(0, 8, 8, 0, 0), 2);
-    }
-
-    private static void aborts(Check check) {
-        ChunkedNodes x = new ChunkedNodes();
-        check.same("without a message", x.chunk(2, 1, 1, -1, 8), 0);
-        check.same("no part", x.part(), -1);
-        x.chunk(0, 2, 7, 1, 1);
-        check.same("with a message", x.chunk(2, 3, 7, -1, 8), 0);
-        check.same("dropped", x.part(), -1);
-        check.same("another request", x.chunk(0, 4, 8, 1, 1), 0);
-        check.same("a new message", x.part(), 1);
-        check.same("no answer", x.answerLength(), 0);
-        for (int i = 0; i < 11; i++) {
-            x.chunk(0, 5 + i, 8, 0, 5);
-        }
-        check.same("12 chunks", x.part(), 56);
-        check.same("aborted as 13th, with more than 64", x.chunk(2, 16, 8, 0, 8), 0);
-        check.same("open", x.isOpen(), true);
-        check.same("12 chunks anew", x.chunk(0, 17, 8, 0, 8), 0);
-    }
-
-    private static void tooManyBytes(Check check) {
-        for (int kind = 0; kind < 2; kind++) {
-            ChunkedNodes x = new ChunkedNodes();
-            for (int i = 0; i < 8; i++) {
-                check.same("8 bytes", x.chunk(0, i, 1, 0, 8), 0);
-            }
-            check.same("64", x.part(), 64);
-            check.same("none more", x.chunk(0, 8, 1, 0, 0), 0);
-            check.same("the 65th, kind " + kind, x.chunk(kind, 9, 1, 0, 1), 2);
-            check.same("no answer", x.answerLength(), 0);
-        }
-        ChunkedNodes x = new ChunkedNodes();
-        for (int i = 0; i < 8; i++) {
-            x.chunk(0, i, 1, 0, 7);
-        }
-        check.same("64 by a LAST", x.chunk(1, 8, 1, 0, 8), 1);
-        check.same("after it a new one", x.chunk(0, 9, 1, 0, 8), 0);
-        check.same("8", x.part(), 8);
-    }
-
-    private static void tooManyChunks(Check check) {
-        for (int kind = 0; kind < 2; kind++) {
-            ChunkedNodes x = new ChunkedNodes();
-            for (int i = 0; i < 12; i++) {
-                check.same("chunk " + i, x.chunk(0, i, 1, 9, 1), 0);
-            }
-            check.same("the 13th, kind " + kind, x.chunk(kind, 12, 1, 0, 0), 2);
-        }
-        ChunkedNodes x = new ChunkedNodes();
-        for (int round = 0; round < 3; round++) {
-            for (int i = 0; i < 11; i++) {
-                x.chunk(0, round * 12 + i, 1, 9, 1);
-            }
-            check.same("the 12th is the last", x.chunk(1, round * 12 + 11, 1, 0, 0), 1);
-        }
-    }
-
-    private static void closedStays(Check check) {
-        Client client = new Client();
-        ChunkedNodes x = client.server;
-        x.variable(0, 6);
-        client.send(Wire.watch(1, 2, 0));
-        client.send(Wire.publish());
+        Client x = Client.with(Wire.SMALL);
+        x.send(Wire.watch(1, 2, 0));
+        x.send(Wire.publish());
         x.poke(1, 1);
-        x.chunk(0, 3, 44, 0, 3);
-        check.same("closes", x.chunk(1, 3, 44, 0, 3), 2);
-        check.same("no message in part", x.part(), -1);
-        for (int kind = 0; kind < 3; kind++) {
-            check.same("closed, kind " + kind, x.chunk(kind, 4, 44, 0, 3), -1);
-        }
-        check.bytes("the latest answer stays", client.answer(),
-                Wire.parcel(1, Wire.notice(0, Wire.small(0), 0)));
-        check.same("its request", x.request(), 102);
+        int[] answer = x.answer();
+        check.same("closes", x.chunk(0, 900, 44, 0, 3), 2);
+        check.bytes("the latest answer stays", x.answer(), answer);
+        check.same("its request stays", x.request(), x.latestRequest());
         check.same("items stay", x.queue(0), 1);
         check.same("parcels stay", x.parcel(0), 1);
     }
 
-    private static void longestMessage(Check check) {
-        Client client = new Client();
-        client.server.variable(0, 12);
-        int[] longest = new int[56];
-        for (int i = 0; i < longest.length; i++) {
-            longest[i] = 200 + i;
+    private static void refusedWhenClosed(Check check) {
+        Client x = new Client();
+        x.chunk(0, 5, 1, 0, 1);
+        x.chunk(0, 7, 1, 0, 1);
+        for (int kind = 0; kind < 3; kind++) {
+            for (int sequence : new int[] {0, 5, 6, 7, 8}) {
+                check.same("kind " + kind + ", " + sequence, x.chunk(kind, sequence, 1, 0, 1), -1);
+            }
         }
-        check.bytes("64 bytes", client.send(Wire.write(1, Wire.text(longest))), 0);
-        check.same("61 of them the value", client.server.size(1), 61);
-        check.bytes("read", client.send(Wire.read(1)), Wire.join(Wire.bytes(0), Wire.text(longest)));
+        check.same("closed still", x.isOpen(), false);
+        x.open();
+        check.same("opened", x.chunk(0, 6, 1, 0, 1), 0);
+    }
+
+    /** The object has taken the chunk 10 of the request 5; a refused call must leave 11 due. */
+    private static void refused(Check check, String what, int kind, int sequence, int request, int count) {
+        Client x = new Client();
+        check.same(what + " at first", x.chunk(kind, sequence, request, 0, count), -1);
+        x.chunk(0, 10, 5, 1, 1);
+        check.same(what, x.chunk(kind, sequence, request, 0, count), -1);
+        check.same(what + ", open", x.isOpen(), true);
+        check.same(what + ", part", x.part(), 1);
+        check.same(what + ", the next one", x.chunk(0, 11, 5, 0, 8), 0);
+    }
+
+    private static void kinds(Check check) {
+        for (int kind : new int[] {Integer.MIN_VALUE, -256, -2, -1, 3, 4, 255, 256, 257, Integer.MAX_VALUE}) {
+            refused(check, "kind " + kind, kind, 11, 5, 1);
+            refused(check, "kind " + kind + ", which else would close", kind, 900, 6, 1);
+        }
+        for (int kind = 0; kind < 3; kind++) {
+            check.same("kind " + kind, new Client().chunk(kind, 11, 5, 0, 1), kind == 1 ? 1 : 0);
+        }
+    }
+
+    private static void belowZero(Check check) {
+        for (int kind = 0; kind < 3; kind++) {
+            for (int below : new int[] {-1, -2, -1000, Integer.MIN_VALUE}) {
+                refused(check, "sequence " + below, kind, below, 5, 1);
+                refused(check, "request " + below, kind, 11, below, 1);
+                refused(check, "both " + below, kind, below, below, 1);
+            }
+            check.same("0 and 0", new Client().chunk(kind, 0, 0, 0, 1), kind == 1 ? 1 : 0);
+        }
+        Client x = new Client();
+        x.chunk(0, Integer.MAX_VALUE, 5, 0, 1);
+        check.same("no wrap to the least int", x.chunk(0, Integer.MIN_VALUE, 5, 0, 1), -1);
+        check.same("open", x.isOpen(), true);
+    }
+
+    private static void counts(Check check) {
+        for (int kind = 0; kind < 3; kind++) {
+            for (int count : new int[] {Integer.MIN_VALUE, -8, -1, 9, 10, 16, 64, 65, 256, Integer.MAX_VALUE}) {
+                refused(check, "count " + count, kind, 11, 5, count);
+            }
+            check.same("count 0", new Client().chunk(kind, 11, 5, 0, 0), kind == 1 ? 1 : 0);
+            check.same("count 8", new Client().chunk(kind, 11, 5, 0, 8), kind == 1 ? 1 : 0);
+        }
     }
 }

@@ -1,37 +1,61 @@
 /** Promise 14: parcel. */
 public final class Promise14ParcelTest {
     public static void main(String[] args) {
-        Check check = new Check();
-        Client client = new Client();
-        ChunkedNodes x = client.server;
-        x.variable(0, 6);
-        client.send(Wire.watch(1, 1, 1));
-        due(check, x);
-        int[][] kept = {{1}, {1, 2}, {1, 2, 3}, {2, 3, 4}, {3, 4, 5}};
-        for (int n = 0; n < kept.length; n++) {
-            client.send(Wire.publish());
-            due(check, x, kept[n]);
-            x.poke(1, n + 1);
-        }
-        client.send(Wire.publish(4));
-        due(check, x, 3, 5, 6);
-        x.poke(1, 99);
-        client.send(Wire.publish(3, 6));
-        due(check, x, 5, 7);
-        client.send(Wire.publish(7, 5));
-        due(check, x);
-        x.poke(1, 100);
-        client.send(Wire.publish());
-        due(check, x, 8);
-        check.end();
+        Section section = new Section("Promise 14");
+        section.sentence("The number of the parcel that is k-th (from 0) of those that are kept, the oldest first",
+                Promise14ParcelTest::numbers);
+        section.sentence("REFUSED if there is no such one", Promise14ParcelTest::noSuchOne);
+        section.end();
     }
 
-    private static void due(Check check, ChunkedNodes x, int... numbers) {
-        for (int k = 0; k < numbers.length; k++) {
-            check.same("parcel " + k, x.parcel(k), numbers[k]);
+    private static Client published(int parcels) {
+        Client x = Client.with(Wire.SMALL);
+        x.send(Wire.watch(1, 1, 1));
+        for (int n = 1; n <= parcels; n++) {
+            x.poke(1, n);
+            x.send(Wire.publish());
         }
-        for (int k : new int[] {-1, numbers.length, 3, 4, Integer.MIN_VALUE, Integer.MAX_VALUE}) {
-            check.same("no parcel " + k, x.parcel(k), -1);
+        return x;
+    }
+
+    private static void due(Check check, String what, Client x, int... numbers) {
+        for (int k = 0; k < 3; k++) {
+            check.same(what + ", " + k, x.parcel(k), k < numbers.length ? numbers[k] : -1);
+        }
+    }
+
+    private static void numbers(Check check) {
+        due(check, "none", published(0));
+        due(check, "one", published(1), 1);
+        due(check, "two", published(2), 1, 2);
+        due(check, "three", published(3), 1, 2, 3);
+        due(check, "four", published(4), 2, 3, 4);
+        due(check, "seven", published(7), 5, 6, 7);
+        int[][] left = {{2, 3}, {1, 3}, {1, 2}};
+        for (int number = 1; number <= 3; number++) {
+            Client x = published(3);
+            x.send(Wire.publish(number));
+            due(check, "without " + number, x, left[number - 1]);
+            x.poke(1, 50);
+            x.send(Wire.publish());
+            due(check, "without " + number + ", and one more", x, left[number - 1][0], left[number - 1][1], 4);
+        }
+        Client x = published(3);
+        x.send(Wire.again(1));
+        due(check, "after AGAIN", x, 1, 2, 3);
+        x.chunk(0, 900, 0, 0, 0);
+        due(check, "the channel being closed", x, 1, 2, 3);
+    }
+
+    private static void noSuchOne(Check check) {
+        for (int parcels = 0; parcels <= 4; parcels++) {
+            Client x = published(parcels);
+            int kept = Math.min(parcels, 3);
+            for (int k : new int[] {kept, 3, 4, 255, 256, Integer.MAX_VALUE, -1, -2, Integer.MIN_VALUE}) {
+                check.same("parcel " + k + " of " + kept, x.parcel(k), -1);
+            }
+            x.open();
+            check.same("opened", x.parcel(0), -1);
         }
     }
 }

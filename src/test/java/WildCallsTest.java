@@ -7,7 +7,7 @@ public final class WildCallsTest {
     private static final Random DICE = new Random(20);
 
     public static void main(String[] args) {
-        Check check = new Check();
+        Check check = new Check("Any call in any state");
         for (int run = 0; run < 3000; run++) {
             ChunkedNodes x = new ChunkedNodes();
             for (int call = 0; call < 500; call++) {

@@ -3,6 +3,7 @@ import java.util.Arrays;
 /** Writes numbers, names, values and messages as the document has them in bytes. */
 final class Wire {
     static final int EMPTY = 0;
+    static final int ANY = 0;
     static final int FLAG = 1;
     static final int SMALL = 6;
     static final int LARGE = 8;
@@ -108,11 +109,25 @@ final class Wire {
     }
 
     /** The argument of chunk() that holds these bytes, the first one lowest. */
-    static long pack(int[] bytes, int from, int count) {
+    static long pack(int... bytes) {
         long packed = 0;
-        for (int i = 0; i < count; i++) {
-            packed |= (long) bytes[from + i] << (8 * i);
+        for (int i = 0; i < bytes.length; i++) {
+            packed |= (long) bytes[i] << (8 * i);
         }
         return packed;
+    }
+
+    /** The answer 0 and a value. */
+    static int[] valueAnswer(int[] value) {
+        return join(bytes(0), value);
+    }
+
+    /** The answer 0 and the names of nodes. */
+    static int[] namesAnswer(int... nodes) {
+        int[] answer = bytes(0, nodes.length);
+        for (int node : nodes) {
+            answer = join(answer, name(node));
+        }
+        return answer;
     }
 }
