@@ -22,6 +22,13 @@ public final class Promise10AnswerTest {
         check.same("as it was", x.answer(2), 1);
         check.same("once more", x.answer(5), 0x80);
         x.abort();
+        x.send(Wire.browse(0, 0));
+        x.folder(0);
+        check.bytes("names as they were", x.answer(), Wire.namesAnswer(1));
+        x.send(Wire.watch(1, 1, 1));
+        int[] parcel = x.send(Wire.publish());
+        x.poke(1, 9);
+        check.bytes("a parcel as it was", x.answer(), parcel);
         x.send(Wire.read(5));
         check.same("the latest one", x.answer(0), 3);
         x.chunk(0, 900, 0, 0, 0);

@@ -145,10 +145,30 @@ public final class ServicePublishTest {
             kept(check, "parcel " + n, x, n);
             x.poke(1, n);
         }
+        numbersAbove255(check);
         x.open();
         x.send(Wire.watch(1, 1, 1));
         check.bytes("the first since it was opened", x.send(Wire.publish()),
                 Wire.parcel(1, Wire.notice(0, Wire.small(12), 0)));
+    }
+
+    /** Six notices of one change make two parcels, so that 512 calls are enough for numbers of two bytes. */
+    private static void numbersAbove255(Check check) {
+        Client x = Client.with(Wire.SMALL);
+        for (int i = 0; i < 6; i++) {
+            x.last(Wire.watch(1, 1, 1));
+        }
+        for (int v = 1; v <= 130; v++) {
+            x.last(Wire.publish());
+            x.last(Wire.publish());
+            x.poke(1, v);
+        }
+        kept(check, "260 parcels", x, 258, 259, 260);
+        check.bytes("AGAIN 258", x.send(6, 2, 1, 0, 0), Wire.parcel(258, Wire.notice(3, Wire.small(128), 0),
+                Wire.notice(4, Wire.small(128), 0), Wire.notice(5, Wire.small(128), 0)));
+        check.bytes("AGAIN 2", x.send(6, 2, 0, 0, 0), 8);
+        x.send(Wire.publish(258, 4));
+        kept(check, "258 is acknowledged, 260 is not", x, 259, 260, 261);
     }
 
     private static void howMany(Check check) {

@@ -31,6 +31,8 @@ public final class ServiceWatchTest {
         }
         check.bytes("of the same variable", x.send(Wire.watch(1, 4, 1)), 6);
         check.bytes("of another", x.send(Wire.watch(2, 4, 1)), 6);
+        check.bytes("of no node", x.send(Wire.watch(3, 4, 1)), 3);
+        check.bytes("of a folder", x.send(Wire.watch(0, 4, 1)), 4);
         check.same("no item 6", x.queue(6), -1);
         for (int i = 0; i < 6; i++) {
             check.same("item " + i + " as it was", x.queue(i), 1);

@@ -76,10 +76,13 @@ public final class TermDepthTest {
 
     /** Each value is written after the one before it, which is not the same, and then once more. */
     private static void same(Check check) {
-        int[][] values = {Wire.small(0), Wire.large(0), Wire.noText(), Wire.text(), Wire.text(0), Wire.text(0, 0),
-            Wire.list(), Wire.list(Wire.empty()), Wire.list(Wire.flag(0)), Wire.list(Wire.flag(1)), Wire.flag(1),
-            Wire.flag(0), Wire.empty(), Wire.small(1), Wire.small(1 << 24), Wire.small(0), Wire.large(1L << 56),
-            Wire.text(1, 2, 3), Wire.text(1, 2, 4), Wire.text(9, 2, 4), Wire.text(9), Wire.empty()};
+        int[][] values = {Wire.small(0), Wire.large(0), Wire.noText(), Wire.small(-1), Wire.noText(), Wire.text(),
+            Wire.list(), Wire.small(0), Wire.text(), Wire.text(0), Wire.text(0, 0), Wire.list(),
+            Wire.list(Wire.empty()), Wire.list(Wire.flag(0)), Wire.list(Wire.flag(1)), Wire.list(Wire.flag(1),
+            Wire.empty()), Wire.list(Wire.list()), Wire.list(Wire.text()), Wire.flag(1), Wire.flag(0), Wire.empty(),
+            Wire.small(1), Wire.small(1 << 24), Wire.small(0), Wire.large(1L << 56), Wire.large(0),
+            Wire.text(0, 0, 0, 0), Wire.text(1, 2, 3), Wire.text(1, 2, 4), Wire.text(9, 2, 4), Wire.text(9),
+            Wire.empty()};
         for (int i = 1; i < values.length; i++) {
             String what = Arrays.toString(values[i]);
             Client x = Client.with(Wire.ANY);

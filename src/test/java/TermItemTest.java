@@ -133,6 +133,15 @@ public final class TermItemTest {
                 check.same("as many notices", full.length, notFull.length);
             }
         }
+        Client x = Client.with(Wire.SMALL);
+        x.send(Wire.watch(1, 1, OLDEST));
+        x.send(Wire.watch(1, 2, NEWEST));
+        x.send(Wire.watch(1, 3, OLDEST));
+        pokeAll(x, 1, 2);
+        check.bytes("each by its own capacity and order", x.publishedNotices(), Wire.join(notice(2, 0),
+                Wire.notice(1, Wire.small(0), 0), Wire.notice(1, Wire.small(2), 1),
+                Wire.notice(2, Wire.small(0), 0), Wire.notice(2, Wire.small(1), 0),
+                Wire.notice(2, Wire.small(2), 0)));
     }
 
     private static void oldestGo(Check check) {

@@ -4,7 +4,7 @@ public final class TermNameTest {
         Section section = new Section("Terms, NAME");
         section.sentence("A NAME of a node is written as 0 and a byte, its number", TermNameTest::shorter);
         section.sentence("or as 1, a byte, and a number of 2 bytes", TermNameTest::longer);
-        section.sentence("A NAME of a node is written as 0 .. or as 1", TermNameTest::noOtherForm);
+        section.sentence("A NAME of a node is written as", TermNameTest::noOtherForm);
         section.sentence("a number of 2 bytes, not signed", TermNameTest::notSigned);
         section.sentence("then it is the node with that number if the byte is 0", TermNameTest::byteZero);
         section.sentence("otherwise no node's name", TermNameTest::otherByte);

@@ -16,6 +16,7 @@ public final class TermValueTest {
         section.sentence("152, a number of 4 bytes, its length, from 0 on, and as many values (LIST)",
                 TermValueTest::list);
         section.sentence("The first byte is its KIND.", TermValueTest::kinds);
+        section.sentence("A VALUE is written as", TermValueTest::cutAtTheEnd);
         section.end();
     }
 
@@ -132,6 +133,19 @@ public final class TermValueTest {
                 }
                 isNone(check, Wire.list(Wire.bytes(kind)));
             }
+        }
+    }
+
+    /** Values that break off where the longest message ends, with no byte behind them that could be read. */
+    private static void cutAtTheEnd(Check check) {
+        int[][] ends = {Wire.bytes(1), Wire.bytes(6), Wire.bytes(6, 1, 1, 1), Wire.bytes(8), Wire.bytes(8, 0, 0),
+            Wire.bytes(12), Wire.bytes(12, 1, 0, 0), Wire.bytes(12, 1, 0, 0, 0), Wire.bytes(152),
+            Wire.bytes(152, 0, 0, 0), Wire.bytes(152, 1, 0, 0, 0), Wire.bytes(152, 1, 0, 0, 0, 152), Wire.bytes()};
+        for (int[] end : ends) {
+            int[] text = Wire.text(new int[51 - end.length]);
+            int[] value = Wire.join(Wire.bytes(152), Wire.number(2, 4), text, end);
+            check.same("64 bytes", Wire.write(1, value).length, 64);
+            isNone(check, value);
         }
     }
 }
