@@ -18,6 +18,17 @@ final class Client {
         return x;
     }
 
+    /** A new object with a SMALL, node 1, which became 1, 2 and so on; each is in a parcel, and none is waiting. */
+    static Client withParcels(int parcels) {
+        Client x = with(Wire.SMALL);
+        x.send(Wire.watch(1, 1, 1));
+        for (int n = 1; n <= parcels; n++) {
+            x.poke(1, n);
+            x.send(Wire.publish());
+        }
+        return x;
+    }
+
     /** What an object answers after its 512th call is free, so no test may lean on it. */
     private ChunkedNodes call() {
         calls++;

@@ -8,16 +8,6 @@ public final class Promise14ParcelTest {
         section.end();
     }
 
-    private static Client published(int parcels) {
-        Client x = Client.with(Wire.SMALL);
-        x.send(Wire.watch(1, 1, 1));
-        for (int n = 1; n <= parcels; n++) {
-            x.poke(1, n);
-            x.send(Wire.publish());
-        }
-        return x;
-    }
-
     private static void due(Check check, String what, Client x, int... numbers) {
         for (int k = 0; k < 3; k++) {
             check.same(what + ", " + k, x.parcel(k), k < numbers.length ? numbers[k] : -1);
@@ -25,22 +15,22 @@ public final class Promise14ParcelTest {
     }
 
     private static void numbers(Check check) {
-        due(check, "none", published(0));
-        due(check, "one", published(1), 1);
-        due(check, "two", published(2), 1, 2);
-        due(check, "three", published(3), 1, 2, 3);
-        due(check, "four", published(4), 2, 3, 4);
-        due(check, "seven", published(7), 5, 6, 7);
+        due(check, "none", Client.withParcels(0));
+        due(check, "one", Client.withParcels(1), 1);
+        due(check, "two", Client.withParcels(2), 1, 2);
+        due(check, "three", Client.withParcels(3), 1, 2, 3);
+        due(check, "four", Client.withParcels(4), 2, 3, 4);
+        due(check, "seven", Client.withParcels(7), 5, 6, 7);
         int[][] left = {{2, 3}, {1, 3}, {1, 2}};
         for (int number = 1; number <= 3; number++) {
-            Client x = published(3);
+            Client x = Client.withParcels(3);
             x.send(Wire.publish(number));
             due(check, "without " + number, x, left[number - 1]);
             x.poke(1, 50);
             x.send(Wire.publish());
             due(check, "without " + number + ", and one more", x, left[number - 1][0], left[number - 1][1], 4);
         }
-        Client x = published(3);
+        Client x = Client.withParcels(3);
         x.send(Wire.again(1));
         due(check, "after AGAIN", x, 1, 2, 3);
         x.chunk(0, 900, 0, 0, 0);
@@ -49,7 +39,7 @@ public final class Promise14ParcelTest {
 
     private static void noSuchOne(Check check) {
         for (int parcels = 0; parcels <= 4; parcels++) {
-            Client x = published(parcels);
+            Client x = Client.withParcels(parcels);
             int kept = Math.min(parcels, 3);
             for (int k : new int[] {kept, 3, 4, 255, 256, Integer.MAX_VALUE, -1, -2, Integer.MIN_VALUE}) {
                 check.same("parcel " + k + " of " + kept, x.parcel(k), -1);

@@ -8,20 +8,10 @@ public final class ServiceAgainTest {
         section.end();
     }
 
-    private static Client published(int parcels) {
-        Client x = Client.with(Wire.SMALL);
-        x.send(Wire.watch(1, 1, 1));
-        for (int n = 1; n <= parcels; n++) {
-            x.poke(1, n);
-            x.send(Wire.publish());
-        }
-        return x;
-    }
-
     private static void notKept(Check check) {
         check.bytes("no parcel at all", new Client().send(Wire.again(1)), 8);
         check.bytes("0 when there is none", new Client().send(Wire.again(0)), 8);
-        Client x = published(5);
+        Client x = Client.withParcels(5);
         for (int number : new int[] {0, 1, 2, 6, -1, -3, 255, 259, Integer.MIN_VALUE, Integer.MAX_VALUE}) {
             check.bytes("number " + number, x.send(Wire.again(number)), 8);
         }
@@ -34,13 +24,13 @@ public final class ServiceAgainTest {
         check.same("the one behind it stays", x.send(Wire.again(5))[0], 0);
         x.send(Wire.publish(3, 5));
         check.bytes("all are acknowledged", x.send(Wire.again(5)), 8);
-        Client y = published(2);
+        Client y = Client.withParcels(2);
         y.open();
         check.bytes("opened anew", y.send(Wire.again(1)), 8);
     }
 
     private static void fourBytes(Check check) {
-        Client x = published(1);
+        Client x = Client.withParcels(1);
         check.same("4 bytes", x.send(6, 1, 0, 0, 0)[0], 0);
         check.bytes("none", x.send(6), 1);
         check.bytes("1", x.send(6, 1), 1);

@@ -81,7 +81,7 @@ public final class ServicePublishTest {
             {1, 2, 3}, {1, 2, 3}, {1, 2, 3}, {1, 2, 3}, {1, 2, 3}, {1, 2, 3}};
         for (int i = 0; i < numbers.length; i++) {
             String what = "numbers " + java.util.Arrays.toString(numbers[i]);
-            Client x = noNoticesLeft();
+            Client x = Client.withParcels(3);
             check.bytes(what, x.send(Wire.publish(numbers[i])), 7);
             kept(check, what, x, left[i]);
         }
@@ -96,19 +96,9 @@ public final class ServicePublishTest {
         kept(check, "all, and a new one", x, 6);
     }
 
-    /** The parcels 1, 2 and 3 are kept, and no item has notices. */
-    private static Client noNoticesLeft() {
-        Client x = watched(1, 1);
-        for (int n = 1; n <= 3; n++) {
-            x.poke(1, n);
-            x.send(Wire.publish());
-        }
-        return x;
-    }
-
     private static void noNotices(Check check) {
         check.bytes("no items", new Client().send(Wire.publish()), 7);
-        Client x = noNoticesLeft();
+        Client x = Client.withParcels(3);
         check.bytes("empty queues", x.send(Wire.publish()), 7);
         kept(check, "no parcel is made, none goes", x, 1, 2, 3);
         check.bytes("the numbers count all the same", x.send(Wire.publish(1, 3)), 7);
