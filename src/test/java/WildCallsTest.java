@@ -1,6 +1,6 @@
 import java.util.Random;
 
-/** Calls with any arguments in any state: none may throw, and a refused one changes nothing. */
+/** Calls with any arguments in any state: none may throw. */
 public final class WildCallsTest {
     private static final int[] INTS = {Integer.MIN_VALUE, -2, -1, 0, 1, 2, 3, 5, 6, 7, 8, 9, 12, 15, 16, 63, 64,
         65, 152, 255, 256, 999, 1000, 1001, Integer.MAX_VALUE};
